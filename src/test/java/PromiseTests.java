@@ -511,7 +511,11 @@ public final class PromiseTests {
         dueHint(lying(18, 26, DOWN), 0, 1, 0, 8, 2);
         dueHint(lying(18, 26, DOWN), 0, 1, 1, 8, 6);
         dueHint(lying(18, 26, DOWN), 0, 1, 2, 8, 1);
+        dueHint(lying(19, 26, DOWN), 0, 1, 1, 9, 6);
+        dueHint(lying(20, 26, DOWN), 0, 1, 1, NONE, NONE);
         dueHint(lying(3, 5, DOWN), 0, 1, 0, NONE, NONE);
+        dueHint(lying(DOWN, 9, DOWN), 0, 1, 0, NONE, NONE);
+        dueHint(lying(DOWN, 9, DOWN), 1, 0, 0, NONE, NONE);
         dueHint(lying(1, 15, DOWN), 0, 1, 3, 7, 7);
         dueHint(lying(1, 15, DOWN), 0, 1, 4, 9, 1);
         x = lying(20, 22, DOWN);
@@ -586,6 +590,7 @@ public final class PromiseTests {
         due("strokes(18, 26, 1), off a cushion", x.strokes(18, 26, 1), 1);
         due("strokes(2, 38, 1), off a cushion at once", x.strokes(2, 38, 1), 0);
         due("strokes(38, 2, 1)", x.strokes(38, 2, 1), 0);
+        due("strokes(1, 35, 0)", x.strokes(1, 35, 0), 2);
         due("strokes(25, 9, 0)", x.strokes(25, 9, 0), 1);
         for (int pocket : POCKETS) {
             due("strokes(" + pocket + ", 1, 0)", x.strokes(pocket, 1, 0), UNKNOWN);
@@ -794,6 +799,7 @@ public final class PromiseTests {
         dueSeason(x, 0, 1, 98, 98, 1);
         due("told(12), nothing is done", x.told(12), 34);
         due("told(2), nothing is done", x.told(2), 97);
+        due("season(9999, 99, 2), not refused", Math.min(0, x.season(9999, 99, 2)), 0);
         due("season(-1, 1, 0)", x.season(-1, 1, 0), OUTSIDE);
         due("season(10000, 1, 0)", x.season(10000, 1, 0), OUTSIDE);
         due("season(0, 0, 0)", x.season(0, 0, 0), OUTSIDE);
