@@ -363,7 +363,7 @@ public final class BaizeCorps {
     }
 
     private static boolean isBall(int ball) {
-        return isWithin(ball, 0, BALLS - 1);
+        return ball >= 0 && ball < BALLS;
     }
 
     private static boolean isCell(int cell) {
@@ -457,17 +457,14 @@ public final class BaizeCorps {
         int reasonAgainst(int kind, int ball) {
             switch (kind) {
                 case STROKE: return isDown(ball) ? 1 : FINE;
-                case BRING_UP: return reasonAgainstBringing(ball);
+                case BRING_UP:
+                    if (!isBall(ball) || cells[ball] != DOWN) {
+                        return 1;
+                    }
+                    return lyingOn(FIRST_CELLS[ball]) == NOBODY ? FINE : 2;
                 case EVENING: return evening >= LAST_EVENING ? 3 : FINE;
                 default: return FINE;
             }
-        }
-
-        private int reasonAgainstBringing(int ball) {
-            if (!isBall(ball) || !isDown(ball)) {
-                return 1;
-            }
-            return lyingOn(FIRST_CELLS[ball]) == NOBODY ? FINE : 2;
         }
 
         /** A BALL that has gone lies in a column done already, so none goes twice. */
