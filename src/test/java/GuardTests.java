@@ -6,7 +6,6 @@ import java.nio.file.Files;
 import java.nio.file.Paths;
 import java.util.Random;
 import java.util.TreeSet;
-import java.util.regex.Matcher;
 import java.util.regex.Pattern;
 
 /** No call throws, refused calls and asking ones change nothing, and the source keeps to the language. */
@@ -22,6 +21,7 @@ public final class GuardTests {
         anyArguments();
         nothingChanges();
         face();
+        shape(BaizeCorps.class);
         language();
         System.out.println(wrong == 0 ? "all answers are as due" : wrong + " answers are not as due");
         if (wrong != 0) {
@@ -125,62 +125,78 @@ public final class GuardTests {
     }
 
     private static void face() {
+        must(Modifier.isPublic(BaizeCorps.class.getModifiers()) && Modifier.isFinal(BaizeCorps.class.getModifiers()),
+            "the class is public and final");
+        must(BaizeCorps.class.getDeclaredConstructors().length == 1 && BaizeCorps.class.getConstructors().length == 1
+            && BaizeCorps.class.getConstructors()[0].getParameterCount() == 0, "one constructor, public, of nothing");
         TreeSet<String> face = new TreeSet<>();
+        TreeSet<String> names = new TreeSet<>();
         for (Method method : BaizeCorps.class.getDeclaredMethods()) {
             if (!Modifier.isPrivate(method.getModifiers())) {
                 face.add(method.getReturnType() + " " + method.getName() + " " + method.getParameterCount());
+                names.add(method.getName());
+                must(Modifier.isPublic(method.getModifiers()), method.getName() + " is public or private");
             }
         }
         must(face.toString().equals("[int alone 4, int ask 1, int ball 2, int behind 1, int candour 1, int chalk 3,"
             + " int done 0, int fault 0, int forget 0, int hint 4, int image 1, int judge 1, int restore 1,"
             + " int say 1, int score 2, int season 3, int seen 2, int sent 1, int strokes 3, int table 1,"
             + " int told 1, int wipe 0, long match 6]"), "the methods of the face: " + face);
+        for (Method method : BaizeCorps.class.getDeclaredMethods()) {
+            must(Modifier.isPublic(method.getModifiers()) || !names.contains(method.getName()),
+                "a private method has a name of its own: " + method.getName());
+        }
         TreeSet<String> constants = new TreeSet<>();
         for (Field field : BaizeCorps.class.getDeclaredFields()) {
             if (!Modifier.isPrivate(field.getModifiers())) {
                 constants.add(field.getType() + " " + field.getName());
             }
-            must(Modifier.isFinal(field.getModifiers()), field.getName() + " is final");
         }
-        must(constants.toString().equals("[int FULL, int NO, int NONE, int OUTSIDE, int STATE, int UNKNOWN, long GONE]"),
-            "the constants of the face: " + constants);
-        TreeSet<String> own = new TreeSet<>();
-        for (Class<?> inner : BaizeCorps.class.getDeclaredClasses()) {
-            must(Modifier.isStatic(inner.getModifiers()), inner + " is static");
-            for (Method method : inner.getDeclaredMethods()) {
-                own.add(method.getName());
-            }
+        String due = "[int FULL, int NO, int NONE, int OUTSIDE, int STATE, int UNKNOWN, long GONE]";
+        must(constants.toString().equals(due), "the constants of the face: " + constants);
+    }
+
+    /** What of ../shared/LANGUAGE.md can be seen of the classes as they are compiled. */
+    private static void shape(Class<?> type) {
+        for (Field field : type.getDeclaredFields()) {
+            must(!Modifier.isStatic(field.getModifiers()) || Modifier.isFinal(field.getModifiers()),
+                "rule 5: a static field is final: " + field);
         }
-        for (Method method : BaizeCorps.class.getDeclaredMethods()) {
-            must(Modifier.isPublic(method.getModifiers()) || !face.toString().contains(" " + method.getName() + " "),
-                "a private method has a name of its own: " + method.getName());
-            must(!Modifier.isPublic(method.getModifiers()) || !own.contains(method.getName()),
-                "a class inside has names of its own: " + method.getName());
+        for (Method method : type.getDeclaredMethods()) {
+            must(method.getParameterCount() <= 7, "rule 11: seven parameters at the most: " + method);
+        }
+        for (Class<?> inner : type.getDeclaredClasses()) {
+            must(Modifier.isStatic(inner.getModifiers()), "rule 1: a class inside is static: " + inner);
+            must(!Modifier.isPublic(inner.getModifiers()) && !Modifier.isProtected(inner.getModifiers()),
+                "rule 1: a class inside is private or package-visible: " + inner);
+            shape(inner);
         }
     }
 
+    /** What of ../shared/LANGUAGE.md a search of the source can see. */
     private static void language() throws IOException {
         String source = new String(Files.readAllBytes(Paths.get(SOURCE)), "ISO-8859-1");
-        String code = source.replaceAll("(?s)/\\*.*?\\*/", " ").replaceAll("//[^\n]*", " ");
-        for (String word : new String[] {"import", "package", "throw", "throws", "try", "catch", "finally",
-            "synchronized", "assert", "protected", "transient", "volatile", "native", "System", "Object", "Random",
-            "hashCode", "toString"}) {
-            must(!Pattern.compile("\\b" + word + "\\b").matcher(code).find(), "the source is without '" + word + "'");
-        }
-        for (String sign : new String[] {"->", "::", "@", "...", "Exact("}) {
-            must(!code.contains(sign), "the source is without '" + sign + "'");
-        }
         for (int i = 0; i < source.length(); i++) {
             if (source.charAt(i) > 127) {
-                must(false, "the source holds no other signs than those to 127");
+                must(false, "rule 4: no other signs than those to 127");
                 break;
             }
         }
-        int classes = 0;
-        Matcher matcher = Pattern.compile("\\b(class|enum|record|interface) [A-Z]").matcher(code);
-        while (matcher.find()) {
-            classes++;
+        String code = source.replaceAll("(?s)/\\*.*?\\*/", " ").replaceAll("//[^\n]*", " ");
+        String[] words = {"package", "throw", "throws", "try", "catch", "synchronized", "assert", "protected", "native",
+            "hashCode", "HashMap", "HashSet", "Random", "Thread", "BigInteger", "Scanner", "Optional"};
+        for (String word : words) {
+            must(!has(code, "\\b" + word + "\\b"), "the source is without '" + word + "'");
         }
-        must(classes <= 12, "twelve classes at the most: " + classes);
+        must(!has(code, "\\bimport\\s+(?!java\\.util\\.(ArrayList|List|Arrays|Iterator|\\*)\\s*;)"),
+            "rule 4: no other import than of lists and arrays");
+        must(!has(code, "\\bSystem\\b(?!\\s*\\.\\s*arraycopy\\b)"), "rule 4: of System arraycopy alone");
+        must(!has(code, "Exact\\s*\\("), "rule 4: no function whose name ends in Exact");
+        must(!has(code, "::"), "rule 2: no method reference");
+        must(!has(code.replaceAll("\\b(case\\b[^;:{}]*?|default\\s*)->", " "), "->"), "rule 2: no lambda");
+    }
+
+    private static boolean has(String code, String pattern) {
+        return Pattern.compile(pattern).matcher(code).find();
     }
 }

@@ -14,9 +14,11 @@ import java.util.TreeSet;
  */
 public final class ReferenceTests {
     private static int wrong = 0;
+    private static int calls = 0;
 
     public static void main(String[] args) {
         everyAnswerOfPureCalls();
+        manySeasons();
         for (int seed = 1; seed <= 1500; seed++) {
             runOfCalls(seed);
         }
@@ -27,6 +29,7 @@ public final class ReferenceTests {
     }
 
     private static void due(String call, long got, long want) {
+        calls++;
         if (got != want) {
             wrong++;
             if (wrong <= 40) {
@@ -35,15 +38,27 @@ public final class ReferenceTests {
         }
     }
 
+    private static BaizeCorps fresh;
+    private static int callsLeft = 0;
+
+    /** A new object as soon as the old one has been used for as many calls as are promised. */
+    private static BaizeCorps unspent() {
+        if (callsLeft == 0) {
+            fresh = new BaizeCorps();
+            callsLeft = 512;
+        }
+        callsLeft--;
+        return fresh;
+    }
+
     /** Calls whose answers hang on their arguments alone are few enough to ask them all. */
     private static void everyAnswerOfPureCalls() {
-        BaizeCorps x = new BaizeCorps();
         Model model = new Model();
         for (int row = -1; row <= 1000; row++) {
             for (int miss = -1; miss <= 2; miss++) {
                 for (int what = -1; what <= 2; what++) {
                     due("chalk(" + row + ", " + miss + ", " + what + ")",
-                        x.chalk(row, miss, what), model.chalk(row, miss, what));
+                        unspent().chalk(row, miss, what), model.chalk(row, miss, what));
                 }
             }
         }
@@ -51,7 +66,7 @@ public final class ReferenceTests {
             for (int to = -1; to <= 45; to++) {
                 for (int what = -1; what <= 2; what++) {
                     due("strokes(" + from + ", " + to + ", " + what + ")",
-                        x.strokes(from, to, what), model.strokes(from, to, what));
+                        unspent().strokes(from, to, what), model.strokes(from, to, what));
                 }
             }
         }
@@ -61,7 +76,7 @@ public final class ReferenceTests {
                     for (int b = -1; b <= n; b++) {
                         for (int k = 0; k < 4; k++) {
                             due("match(" + n + ", " + t + ", " + a + ", " + b + ", " + k / 2 + ", " + k % 2 + ")",
-                                x.match(n, t, a, b, k / 2, k % 2), model.match(n, t, a, b, k / 2, k % 2));
+                                unspent().match(n, t, a, b, k / 2, k % 2), model.match(n, t, a, b, k / 2, k % 2));
                         }
                     }
                 }
@@ -71,11 +86,30 @@ public final class ReferenceTests {
             for (int way = -1; way <= 8; way++) {
                 for (int n = 0; n <= 40; n++) {
                     due("alone(" + cell + ", " + way + ", " + n + ", 0)",
-                        x.alone(cell, way, n, 0), model.alone(cell, way, n, 0));
+                        unspent().alone(cell, way, n, 0), model.alone(cell, way, n, 0));
                 }
                 for (int what = -1; what <= 3; what++) {
                     due("alone(" + cell + ", " + way + ", 99999, " + what + ")",
-                        x.alone(cell, way, 99999, what), model.alone(cell, way, 99999, what));
+                        unspent().alone(cell, way, 99999, what), model.alone(cell, way, 99999, what));
+                }
+            }
+        }
+    }
+
+    /** Seasons of each length, from where the three lie at first and from elsewhere. */
+    private static void manySeasons() {
+        for (int seed = -1; seed <= 10000; seed += seed < 3 || seed > 9996 ? 1 : 37) {
+            BaizeCorps x = new BaizeCorps();
+            Model model = new Model();
+            if (seed % 2 == 0) {
+                due("ball(0, 20)", x.ball(0, 20), model.ball(0, 20));
+                due("ball(1, -1)", x.ball(1, -1), model.ball(1, -1));
+                due("score(98, 99)", x.score(98, 99), model.score(98, 99));
+            }
+            for (int m = 0; m <= 100; m++) {
+                for (int what = 0; what <= 2; what++) {
+                    due("season(" + seed + ", " + m + ", " + what + ")",
+                        x.season(seed, m, what), model.season(seed, m, what));
                 }
             }
         }
@@ -85,8 +119,10 @@ public final class ReferenceTests {
         Random random = new Random(seed);
         BaizeCorps x = new BaizeCorps();
         Model model = new Model();
-        for (int call = 0; call < 512; call++) {
-            oneCall(seed, call, random, x, model);
+        // one lot is 16 calls at the most, and an object is good for 512
+        calls = 0;
+        for (int lot = 0; calls <= 512 - 16; lot++) {
+            someCalls(seed, lot, random, x, model);
         }
     }
 
@@ -98,8 +134,8 @@ public final class ReferenceTests {
         return least + random.nextInt(most - least + 1);
     }
 
-    private static void oneCall(int seed, int call, Random r, BaizeCorps x, Model m) {
-        String at = "run " + seed + ", call " + call + ": ";
+    private static void someCalls(int seed, int lot, Random r, BaizeCorps x, Model m) {
+        String at = "run " + seed + ", lot " + lot + ": ";
         switch (r.nextInt(24)) {
             case 0: case 1: {
                 int ball = about(r, 0, 2);
@@ -182,7 +218,8 @@ public final class ReferenceTests {
                 int s = about(r, 0, 9999);
                 int acts = about(r, 1, 99);
                 int what = about(r, 0, 2);
-                due(at + "season(" + s + ", " + acts + ", " + what + ")", x.season(s, acts, what), m.season(s, acts, what));
+                due(at + "season(" + s + ", " + acts + ", " + what + ")",
+                    x.season(s, acts, what), m.season(s, acts, what));
                 break;
             }
             case 22: {
